@@ -8,6 +8,7 @@ public final class ShardsTest {
         promise27OnlyNeeded();
         promise28LongestShard();
         promise29ShardsFor();
+        asTheyAreNow();
         Check.finish("ShardsTest");
     }
 
@@ -88,5 +89,27 @@ public final class ShardsTest {
         Check.same("all in two", full.shardsFor(15999), 2);
         Check.same("all in eight", full.shardsFor(2000), 8);
         Check.same("all in none", full.shardsFor(1999), Monobuild.NONE);
+    }
+
+    /** All three look at the targets as they are at the call, whatever was asked before. */
+    private static void asTheyAreNow() {
+        Monobuild x = Repo.withFiles("a");
+        x.addTarget(4);
+        x.addTarget(6);
+        Repo.glob(x, 0, "a");
+        x.runAll();
+        x.edit(0, 1);
+        Check.same("longestShard after an edit", x.longestShard(2), 4);
+        x.edit(0, 10);
+        Check.same("shardOf after the edit back", x.shardOf(0, 2), -1);
+        x.edit(0, 1);
+        Check.same("shardsFor after an edit", x.shardsFor(3), -1);
+        x.edit(0, 10);
+        Check.same("longestShard after the edit back", x.longestShard(2), 0);
+        x.edit(0, 1);
+        Check.same("shardOf after an edit", x.shardOf(0, 2), 0);
+        x.edit(0, 10);
+        Check.same("shardsFor after the edit back", x.shardsFor(3), 1);
+        Check.same("none of these runs anything", x.keys(), 2);
     }
 }

@@ -126,7 +126,16 @@ public final class TargetsTest {
         Check.same("it does again", x.inputs(0), 6);
         Repo.glob(x, 1, "**");
         Check.same("all", x.inputs(1), 15);
-        Check.call("inputs(2)", () -> x.inputs(2), Repo.INDEX);
+        Repo.file(x, "c/y", 1);
+        Check.same("a glob meets two later files", x.inputs(0), 22);
+        x.addTarget(1);
+        Repo.glob(x, 2, "d");
+        Repo.glob(x, 2, "?");
+        Repo.file(x, "d", 1);
+        Check.same("two globs meet one later file", x.inputs(2), 43);
+        Repo.file(x, "e", 1);
+        Check.same("the second one alone meets another", x.inputs(2), 107);
+        Check.call("inputs(3)", () -> x.inputs(3), Repo.INDEX);
         Check.call("inputs(-1)", () -> x.inputs(-1), Repo.INDEX);
         Check.call("inputs(16)", () -> x.inputs(16), Repo.INDEX);
     }
